@@ -542,20 +542,19 @@ public final class QuestionBench {
     // ---- looks
 
     public int depth(int p) {
-        int wrong = findingOfTask(p);
-        if (wrong != FINE) {
-            return wrong;
-        }
-        cubes.weigh(places[p], false);
-        return cubes.weightOfAll();
+        return weightOf(p, false);
     }
 
     public int sum(int p) {
+        return weightOf(p, true);
+    }
+
+    private int weightOf(int p, boolean sums) {
         int wrong = findingOfTask(p);
         if (wrong != FINE) {
             return wrong;
         }
-        cubes.weigh(places[p], true);
+        cubes.weigh(places[p], sums);
         return cubes.weightOfAll();
     }
 
@@ -624,7 +623,7 @@ public final class QuestionBench {
     }
 
     public int most(int p, int what, int side) {
-        int wrong = what < 0 || what > 2 || side < 0 || side > 2 ? BAD : findingOfTold(p);
+        int wrong = findingOfMost(p, what, side);
         if (wrong != FINE) {
             return wrong;
         }
@@ -634,8 +633,12 @@ public final class QuestionBench {
     }
 
     public int where(int p, int what, int side) {
-        int wrong = what < 0 || what > 2 || side < 0 || side > 2 ? BAD : findingOfTold(p);
+        int wrong = findingOfMost(p, what, side);
         return wrong != FINE ? wrong : changes.leastGreatest(places[p], what, side);
+    }
+
+    private int findingOfMost(int p, int what, int side) {
+        return what < 0 || what > 2 || side < 0 || side > 2 ? BAD : findingOfTold(p);
     }
 
     public int poly(int p, int set) {
@@ -1221,10 +1224,12 @@ public final class QuestionBench {
         }
     }
 
-    /** The fewest letters of each task of 3 bits; what the 8 INPUTS say are the bits of its number. */
+    /** LETTERS of all tasks of 3 bits, each by the number whose bits are what its INPUTS say. */
     private static final class Letters {
         private static final int TASKS = 256;
         private static final int UNKNOWN = 99;
+        /** No task of 3 bits needs more than their parity does. */
+        private static final int MOST_LETTERS = 10;
 
         private final int[] fewest = new int[TASKS];
         private boolean known;
@@ -1247,8 +1252,7 @@ public final class QuestionBench {
             lower(0xAA, 1);
             lower(0xCC, 1);
             lower(0xF0, 1);
-            // ends when a round finds all known; no task of 3 bits needs as many as 16
-            for (int letters = 2; letters < 16; letters++) {
+            for (int letters = 2; letters <= MOST_LETTERS; letters++) {
                 joinTo(letters);
             }
         }

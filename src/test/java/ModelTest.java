@@ -18,6 +18,7 @@ public final class ModelTest {
     }
 
     private void all() {
+        smallTasks();
         for (run = 0; run < RUNS; run++) {
             bench = new QuestionBench();
             plain = new PlainBench();
@@ -29,6 +30,34 @@ public final class ModelTest {
             }
         }
         due.end();
+    }
+
+    /** Every TOLD task of 1 to 3 bits. */
+    private void smallTasks() {
+        for (int bits = 1; bits <= 3; bits++) {
+            for (int says = 0; says < 1 << (1 << bits); says++) {
+                bench = new QuestionBench();
+                plain = new PlainBench();
+                bench.task(0, bits, 0);
+                plain.task(0, bits, 0);
+                for (int x = 0; x < 1 << bits; x++) {
+                    same("set", bench.set(0, x, says >> x & 1), plain.set(0, x, says >> x & 1));
+                }
+                String task = "task " + says + " of " + bits + " bits: ";
+                same(task + "letters", bench.letters(0), plain.letters(0));
+                same(task + "depth", bench.depth(0), plain.depth(0));
+                same(task + "sum", bench.sum(0), plain.sum(0));
+                same(task + "degree", bench.degree(0), plain.degree(0));
+                same(task + "form", bench.form(0), plain.form(0));
+                for (int k = 0; k <= plain.count(3); k++) {
+                    same(task + "cube " + k, bench.cube(k), plain.cube(k));
+                }
+                for (int what = 0; what < 9; what++) {
+                    same(task + "most " + what, bench.most(0, what / 3, what % 3), plain.most(0, what / 3, what % 3));
+                    same(task + "where " + what, bench.where(0, what / 3, what % 3), plain.where(0, what / 3, what % 3));
+                }
+            }
+        }
     }
 
     private int step() {
