@@ -1,22 +1,5 @@
 /** Each promise of the document by its number: ordinary inputs, the edges that are named, wrong inputs. */
-public final class PromiseTest {
-    private static final int BAD = -2;
-    private static final int NOT_SO = -3;
-    private static final int OPEN = -4;
-    private static final int BIG = -5;
-    private static final int NOTHING = -10;
-    private static final int PLACE = -11;
-    private static final int SORT = -12;
-    private static final int SIZE = -13;
-
-    private static final int LEAST = Integer.MIN_VALUE;
-    private static final int GREATEST = Integer.MAX_VALUE;
-
-    private static final String MAJORITY = "00010111";
-    private static final String PARITY = "01101001";
-    /** Bit 0 chooses bit 1 or bit 2. */
-    private static final String CHOICE = "00100111";
-
+public final class PromiseTest extends Laying {
     private static final Due DUE = new Due();
     private static int promise;
 
@@ -53,44 +36,9 @@ public final class PromiseTest {
         DUE.due("promise " + promise + ": " + call, got, want);
     }
 
-    /** A bench with one task at PLACE 0: what its INPUTS say from 0 on, '2' for OPEN. */
-    private static QuestionBench bench(String says) {
-        QuestionBench b = new QuestionBench();
-        lay(b, 0, says);
-        return b;
-    }
-
-    private static void lay(QuestionBench b, int p, String says) {
-        int bits = Integer.numberOfTrailingZeros(says.length());
-        b.lose(5);
-        b.task(p, bits, 5);
-        for (int x = 0; x < says.length(); x++) {
-            if (says.charAt(x) != '0') b.set(p, x, says.charAt(x) - '0');
-        }
-    }
-
-    private static String saysOf(QuestionBench b, int p) {
-        StringBuilder says = new StringBuilder();
-        for (int x = 0; x < 1 << b.of(p, 1); x++) {
-            says.append(b.say(p, x));
-        }
-        return says.toString();
-    }
-
     private static void dueSays(String call, QuestionBench b, int p, String want) {
         String got = saysOf(b, p);
         due(call + " made " + got + " where " + want + " is due: alike", got.equals(want) ? 1 : 0, 1);
-    }
-
-    private static void tell(QuestionBench b, int... numbers) {
-        for (int v : numbers) {
-            b.tell(v);
-        }
-    }
-
-    /** The AND of all of n bits. */
-    private static String and(int n) {
-        return "0".repeat((1 << n) - 1) + "1";
     }
 
     private static void newObject() {
@@ -623,11 +571,7 @@ public final class PromiseTest {
         lay(b, 0, "2222");
         due("tree of an open task", b.tree(0, 0), 1);
         due("says 2", b.node(0, 0), 22);
-        StringBuilder parity = new StringBuilder();
-        for (int x = 0; x < 256; x++) {
-            parity.append(Integer.bitCount(x) % 2);
-        }
-        b = bench(parity.toString());
+        b = bench(parity(8));
         due("the greatest tree", b.tree(0, 1), 511);
         due("its last node", b.node(510, 0), 20);
         due("the looks ahead of it", b.node(510, 1), 8);
@@ -885,11 +829,7 @@ public final class PromiseTest {
         lay(b, 2, "00");
         b.form(2);
         due("an empty form has none", b.cube(0), BAD);
-        StringBuilder parity = new StringBuilder();
-        for (int x = 0; x < 16; x++) {
-            parity.append(Integer.bitCount(x) % 2);
-        }
-        lay(b, 3, parity.toString());
+        lay(b, 3, parity(4));
         promise = 34;
         due("the longest form", b.form(3), 8);
     }
